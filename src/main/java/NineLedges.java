@@ -195,11 +195,9 @@ public final class NineLedges {
     // ---- minutes
 
     public int minutes(int n) {
-        if (n < 1 || n > MOST_AHEAD) {
-            return fail(BEYOND);
-        }
-        if (now.minute + n > MOST_MINUTE) {
-            return fail(STATE);
+        int refusal = refusesMinutes(n);
+        if (refusal != 0) {
+            return fail(refusal);
         }
         for (int i = 0; i < n; i++) {
             now.passMinute(false);
@@ -208,11 +206,9 @@ public final class NineLedges {
     }
 
     public int loose(int n) {
-        if (n < 1 || n > MOST_AHEAD) {
-            return fail(BEYOND);
-        }
-        if (now.minute + n > MOST_MINUTE) {
-            return fail(STATE);
+        int refusal = refusesMinutes(n);
+        if (refusal != 0) {
+            return fail(refusal);
         }
         for (int i = 0; i < n; i++) {
             now.passMinute(now.draw() % 4 == 0);
@@ -394,11 +390,9 @@ public final class NineLedges {
     }
 
     public int put(int sheet, int i, int v) {
-        if (!isSheet(sheet)) {
-            return fail(BEYOND);
-        }
-        if (isMissing(sheet)) {
-            return fail(NONE);
+        int refusal = refusesSheet(sheet);
+        if (refusal != 0) {
+            return fail(refusal);
         }
         if (!sheets[sheet].has(i)) {
             return fail(BEYOND);
@@ -411,7 +405,7 @@ public final class NineLedges {
         if (!isSheet(sheet) || !isSheet(other)) {
             return fail(BEYOND);
         }
-        if (isMissing(sheet) || isMissing(other)) {
+        if (sheetBits[sheet] == 0 || sheetBits[other] == 0) {
             return fail(NONE);
         }
         if (sheetBits[sheet] != sheetBits[other]) {
@@ -425,11 +419,9 @@ public final class NineLedges {
     }
 
     public int rooms(int sheet) {
-        if (!isSheet(sheet)) {
-            return fail(BEYOND);
-        }
-        if (isMissing(sheet)) {
-            return fail(NONE);
+        int refusal = refusesSheet(sheet);
+        if (refusal != 0) {
+            return fail(refusal);
         }
         Row row = sheets[sheet];
         for (int yard = 0; yard < row.size; yard++) {
@@ -443,11 +435,9 @@ public final class NineLedges {
     }
 
     public int judge(int sheet) {
-        if (!isSheet(sheet)) {
-            return fail(BEYOND);
-        }
-        if (isMissing(sheet)) {
-            return fail(NONE);
+        int refusal = refusesSheet(sheet);
+        if (refusal != 0) {
+            return fail(refusal);
         }
         Row row = sheets[sheet];
         int both = Math.min(row.size, now.company);
@@ -542,8 +532,20 @@ public final class NineLedges {
         return goer >= 0 && goer < now.company;
     }
 
-    private boolean isMissing(int sheet) {
-        return sheetBits[sheet] == 0;
+    /** The ERROR with which so many MINUTES are refused; 0: they aren't. */
+    private int refusesMinutes(int n) {
+        if (n < 1 || n > MOST_AHEAD) {
+            return BEYOND;
+        }
+        return now.minute + n > MOST_MINUTE ? STATE : 0;
+    }
+
+    /** The ERROR with which a SHEET is refused that isn't there; 0: it is. */
+    private int refusesSheet(int sheet) {
+        if (!isSheet(sheet)) {
+            return BEYOND;
+        }
+        return sheetBits[sheet] == 0 ? NONE : 0;
     }
 
     private static boolean isYard(int yard) {

@@ -16,6 +16,8 @@ final class MinuteTest {
         tollAndTakings();
         rankByTimes();
         draws();
+        mostTakings();
+        mostBacks();
         limits();
         ahead();
         Due.end("MinuteTest");
@@ -278,19 +280,17 @@ final class MinuteTest {
         }
         Due.due("300 draws", x.count(10), z);
         Due.due("MINUTE", x.count(2), 301);
-        Due.due("by FOG one doesn't hear", ledgeLeft(true), 3);
-        Due.due("without FOG it does", ledgeLeft(false), 2);
+        int fogs = 0;
+        for (int i = 0; i < 100; i++) {
+            boolean fog = ((i * 1103515245 + 12345) >>> 8) % 4 == 0;
+            fogs += fog ? 1 : 0;
+            Due.due("by FOG one doesn't hear", yardByDraw(i), fog ? 3 : 2);
+        }
+        Due.due("FOG was seen", fogs > 9 ? 1 : 0, 1);
     }
 
-    /** Where one that would wait at a LEDGE is behind a MINUTE with FOG, or without. */
-    private static int ledgeLeft(boolean fog) {
-        int z = 0;
-        for (int i = 0; i < 1000; i++) {
-            int drawn = (i * 1103515245 + 12345) >>> 8;
-            if ((drawn % 4 == 0) == fog) {
-                z = i;
-            }
-        }
+    /** Where one that would wait at a LEDGE is behind a MINUTE by draws. */
+    private static int yardByDraw(int z) {
         NineLedges x = new NineLedges();
         x.room(2, 2);
         x.goer(0, 2, 9, 0);
@@ -299,6 +299,46 @@ final class MinuteTest {
         x.seed(z);
         x.loose(1);
         return x.ofGoer(0, 6);
+    }
+
+    private static void mostTakings() {
+        for (int sign = -1; sign <= 1; sign += 2) {
+            NineLedges x = new NineLedges();
+            for (int yard = 1; yard < 10; yard++) {
+                x.room(yard, 5);
+            }
+            Due.text(x, 1, sign < 0 ? "0-99" : "99");
+            for (int i = 0; i < 8; i++) {
+                x.goer(0, 0, 10, 0);
+            }
+            int paid = 0;
+            for (int round = 0; round < 16; round++) {
+                Due.due("all are OVER", x.minutes(30), 8);
+                paid = Math.min(99999, paid + 8 * 9 * 99);
+                Due.due("TAKINGS", x.count(5), sign * paid);
+                for (int i = 0; i < 8; i++) {
+                    x.home(i);
+                }
+            }
+            Due.due("held", x.count(5), sign * 99999);
+        }
+    }
+
+    /** Four pairs meet again and again. So many BACKS need more than 512 calls, or a far more intricate path. */
+    private static void mostBacks() {
+        NineLedges x = new NineLedges();
+        for (int pair = 0; pair < 4; pair++) {
+            x.goer(0, 4 * pair + 4, 23, 0);
+            x.goer(0, 4 * pair + 5, 0, 0);
+        }
+        for (int round = 1; round <= 2510; round++) {
+            x.minutes(2);
+            Due.due("BACKS", x.count(6), Math.min(9999, 4 * round));
+            Due.due("TIMES", x.ofGoer(7, 9), 1);
+            for (int i = 0; i < 8; i++) {
+                x.home(i);
+            }
+        }
     }
 
     private static void limits() {
@@ -322,6 +362,12 @@ final class MinuteTest {
         Due.due("beyond 9999 AHEAD", x.then(300, 0, 5), 2);
         Due.due("the last", x.minutes(99), 1);
         Due.due("MINUTE", x.count(2), 9999);
+        NineLedges y = new NineLedges();
+        for (int i = 0; i < 33; i++) {
+            y.loose(300);
+        }
+        Due.due("the last by draws", y.loose(99), 0);
+        Due.due("MINUTE", y.count(2), 9999);
         Due.due("no more", x.minutes(1), Due.STATE);
         Due.due("no more", x.loose(1), Due.STATE);
         Due.due("told", x.told(3), 4);

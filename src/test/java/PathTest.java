@@ -159,7 +159,8 @@ final class PathTest {
         Due.due("as BLIND", x.as(0, 6), 4);
         Due.due("as WEDDING", x.as(0, 3), 4);
         Due.due("as GOAT", x.as(0, 2), Due.KIND);
-        Due.due("told", x.told(5), 5);
+        Due.due("as COFFIN", x.as(0, 1), Due.KIND);
+        Due.due("told", x.told(5), 6);
         Due.due("become", x.become(0, 70), Due.BEYOND);
         Due.due("become", x.become(0, -1), Due.BEYOND);
         Due.due("become", x.become(1, 0), Due.BEYOND);

@@ -140,10 +140,14 @@ final class WouldBeTest {
         y.home(0);
         Due.due("no START left", y.bestStart(0, 0), Due.NONE);
         Due.due("SPARE 0", y.spare(0), 0);
-        NineLedges w = against(500, 300);
+        // the first comes to YARD 0 45 MINUTES behind its START; till then the other's way is barred
+        NineLedges w = new NineLedges();
+        w.goer(10, 23, 0, 15);
+        w.goer(10, 0, 23, 0);
         Due.due("sixty of them", w.bestStart(1, 0), Due.NONE);
-        w.start(0, 59 - 9);
-        Due.due("the last of them", w.bestStart(1, 0), 0);
+        w.start(0, 14);
+        Due.due("the last of them", w.bestStart(1, 0), 59);
+        Due.due("OVER BY with it", w.bestStart(1, 1), 108);
     }
 
     /** Of STARTS with one OVER BY that with the fewest BACKS; a third GOER alone makes OVER BY. */
@@ -164,6 +168,8 @@ final class WouldBeTest {
         NineLedges x = against(0, 40);
         Due.due("till the other finds it on its way", x.spare(0), 31);
         Due.due("60 at most", x.spare(1), 60);
+        Due.due("59", against(0, 68).spare(0), 59);
+        Due.due("60", against(0, 69).spare(0), 60);
         x.start(0, 5);
         Due.due("less", x.spare(0), 26);
         x.start(0, 31);
@@ -214,7 +220,12 @@ final class WouldBeTest {
         x.room(2, 1);
         Due.due("another is the first now", x.without(0), Due.NONE);
         x.room(2, 2);
-        x.minutes(3);
+        x.minutes(2);
+        x.room(1, 2);
+        Due.due("one is at it", x.ofYard(1, 1), 1);
+        Due.due("one is at it", x.without(0), 4);
+        x.room(1, 1);
+        x.minutes(1);
         Due.due("two are at it", x.ofYard(2, 1), 2);
         Due.due("two are at it", x.without(0), Due.STATE);
         Due.due("no such LEDGE", x.without(2), Due.BEYOND);
