@@ -3,27 +3,11 @@ final class MinuteTest {
     private MinuteTest() {
     }
 
-    public static void main(String[] args) {
-        oneAlone();
-        paces();
-        startAndFree();
-        equalRanks();
-        lessRank();
-        backAsFarAsTheEnd();
-        hearing();
-        notHearing();
-        atFault();
-        tollAndTakings();
-        rankByTimes();
-        draws();
-        mostTakings();
-        mostBacks();
-        limits();
-        ahead();
-        Due.end("MinuteTest");
+    public static void main(String[] args) throws Exception {
+        Due.each(MinuteTest.class);
     }
 
-    private static void oneAlone() {
+    static void oneAlone() {
         NineLedges x = new NineLedges();
         x.goer(0, 5, 8, 3);
         Due.due("START is later", x.minutes(2), 0);
@@ -42,7 +26,7 @@ final class MinuteTest {
         Due.due("no LEDGE, no TOLL", x.count(5), 0);
     }
 
-    private static void paces() {
+    static void paces() {
         NineLedges x = new NineLedges();
         x.goer(40, 3, 0, 0);
         x.minutes(1);
@@ -57,7 +41,7 @@ final class MinuteTest {
         Due.due("OVER", x.minutes(1), 1);
     }
 
-    private static void startAndFree() {
+    static void startAndFree() {
         NineLedges x = new NineLedges();
         x.goer(0, 4, 9, 0);
         x.goer(0, 4, 9, 0);
@@ -84,7 +68,7 @@ final class MinuteTest {
         Due.due("no TOLL at FROM", y.count(5), 0);
     }
 
-    private static void equalRanks() {
+    static void equalRanks() {
         NineLedges x = new NineLedges();
         x.goer(4, 6, 2, 0);
         x.goer(4, 3, 9, 0);
@@ -118,7 +102,7 @@ final class MinuteTest {
         Due.due("TIMES", x.ofGoer(0, 9), 0);
     }
 
-    private static void lessRank() {
+    static void lessRank() {
         NineLedges x = new NineLedges();
         x.goer(2, 3, 9, 0);
         x.goer(5, 4, 0, 0);
@@ -136,7 +120,7 @@ final class MinuteTest {
         Due.due("by a TEXT the other one", y.ofGoer(1, 8), 1);
     }
 
-    private static void backAsFarAsTheEnd() {
+    static void backAsFarAsTheEnd() {
         NineLedges x = new NineLedges();
         x.goer(2, 1, 9, 0);
         x.goer(5, 2, 0, 0);
@@ -163,7 +147,7 @@ final class MinuteTest {
         return x;
     }
 
-    private static void hearing() {
+    static void hearing() {
         NineLedges x = twoLedges(0);
         x.goer(0, 5, 0, 0);
         x.minutes(2);
@@ -197,7 +181,7 @@ final class MinuteTest {
         Due.due("down the numbers, too", down.ofGoer(0, 6), 20);
     }
 
-    private static void notHearing() {
+    static void notHearing() {
         NineLedges x = twoLedges(60);
         x.goer(0, 5, 0, 0);
         x.minutes(2);
@@ -208,7 +192,7 @@ final class MinuteTest {
         Due.due("SLEEPING", y.ofGoer(0, 6), 3);
     }
 
-    private static void atFault() {
+    static void atFault() {
         NineLedges x = new NineLedges();
         x.goer(34, 3, 0, 0);
         x.goer(12, 2, 9, 0);
@@ -234,7 +218,7 @@ final class MinuteTest {
         Due.due("not any more", x.faults(), 0);
     }
 
-    private static void tollAndTakings() {
+    static void tollAndTakings() {
         NineLedges x = new NineLedges();
         x.room(3, 2);
         x.room(5, 2);
@@ -255,7 +239,7 @@ final class MinuteTest {
         Due.due("as it is", y.count(5), -99);
     }
 
-    private static void rankByTimes() {
+    static void rankByTimes() {
         NineLedges x = new NineLedges();
         Due.text(x, 0, "n+b*5");
         x.goer(0, 3, 20, 0);
@@ -267,7 +251,7 @@ final class MinuteTest {
         Due.due("RANK by TIMES", x.ofGoer(1, 12), 1);
     }
 
-    private static void draws() {
+    static void draws() {
         NineLedges x = new NineLedges();
         Due.due("loose", x.loose(1), 0);
         Due.due("one draw", x.count(10), 1103527590);
@@ -301,47 +285,7 @@ final class MinuteTest {
         return x.ofGoer(0, 6);
     }
 
-    private static void mostTakings() {
-        for (int sign = -1; sign <= 1; sign += 2) {
-            NineLedges x = new NineLedges();
-            for (int yard = 1; yard < 10; yard++) {
-                x.room(yard, 5);
-            }
-            Due.text(x, 1, sign < 0 ? "0-99" : "99");
-            for (int i = 0; i < 8; i++) {
-                x.goer(0, 0, 10, 0);
-            }
-            int paid = 0;
-            for (int round = 0; round < 16; round++) {
-                Due.due("all are OVER", x.minutes(30), 8);
-                paid = Math.min(99999, paid + 8 * 9 * 99);
-                Due.due("TAKINGS", x.count(5), sign * paid);
-                for (int i = 0; i < 8; i++) {
-                    x.home(i);
-                }
-            }
-            Due.due("held", x.count(5), sign * 99999);
-        }
-    }
-
-    /** Four pairs meet again and again. So many BACKS need more than 512 calls, or a far more intricate path. */
-    private static void mostBacks() {
-        NineLedges x = new NineLedges();
-        for (int pair = 0; pair < 4; pair++) {
-            x.goer(0, 4 * pair + 4, 23, 0);
-            x.goer(0, 4 * pair + 5, 0, 0);
-        }
-        for (int round = 1; round <= 2510; round++) {
-            x.minutes(2);
-            Due.due("BACKS", x.count(6), Math.min(9999, 4 * round));
-            Due.due("TIMES", x.ofGoer(7, 9), 1);
-            for (int i = 0; i < 8; i++) {
-                x.home(i);
-            }
-        }
-    }
-
-    private static void limits() {
+    static void limits() {
         NineLedges x = new NineLedges();
         Due.due("n", x.minutes(0), Due.BEYOND);
         Due.due("n", x.minutes(301), Due.BEYOND);
@@ -374,11 +318,16 @@ final class MinuteTest {
         Due.due("told", x.told(1), 7);
     }
 
-    private static void ahead() {
+    private static NineLedges twoToMeet() {
         NineLedges x = new NineLedges();
         x.room(2, 2);
         x.goer(10, 0, 5, 2);
         x.goer(5, 9, 0, 0);
+        return x;
+    }
+
+    static void ahead() {
+        NineLedges x = twoToMeet();
         Due.due("by 0", x.then(0, 0, 5), 0);
         Due.due("by 0", x.then(0, 0, 6), -1);
         Due.due("by 2", x.then(2, 0, 6), 0);
@@ -387,16 +336,13 @@ final class MinuteTest {
         Due.due("MINUTE stays", x.count(2), 0);
         Due.due("nobody is ON", x.count(3), 0);
         for (int n = 0; n <= 40; n++) {
+            NineLedges y = twoToMeet();
+            if (n > 0) {
+                y.minutes(n);
+            }
             for (int what = 5; what <= 9; what++) {
-                Due.due("then(0, 1, " + what + ")", x.then(0, 1, what), x.ofGoer(1, what));
-                NineLedges y = new NineLedges();
-                y.room(2, 2);
-                y.goer(10, 0, 5, 2);
-                y.goer(5, 9, 0, 0);
-                if (n > 0) {
-                    y.minutes(n);
-                }
                 Due.due("then(" + n + ", 0, " + what + ")", x.then(n, 0, what), y.ofGoer(0, what));
+                Due.due("then(0, 0, " + what + ") by then", y.then(0, 0, what), y.ofGoer(0, what));
             }
         }
         Due.due("n", x.then(-1, 0, 5), Due.BEYOND);

@@ -1,16 +1,18 @@
 import java.util.Random;
 
-/** Long runs of drawn calls, each answered by the class and by the Model; seeds are fixed. */
+/** Runs of drawn calls, each answered by the class and by the Model; seeds are fixed. */
 final class ModelTest {
-    private static final int CALLS = 500;
+    /** An object is used for 512 calls; a draw takes some 20 at most, and all that is looked at in the end 165. */
+    private static final int CALLS = 320;
     private static final int[] answered = new int[40];
     private static final int[] refused = new int[40];
+    private static int calls;
 
     private ModelTest() {
     }
 
     public static void main(String[] args) {
-        int runs = args.length > 0 ? Integer.parseInt(args[0]) : 400;
+        int runs = args.length > 0 ? Integer.parseInt(args[0]) : 1500;
         int first = args.length > 1 ? Integer.parseInt(args[1]) : 0;
         int[] saw = new int[8];
         for (int seed = first; seed < first + runs; seed++) {
@@ -28,7 +30,7 @@ final class ModelTest {
             Due.due(NAMES[i] + " was answered without an ERROR", answered[i] > 0 ? 1 : 0, 1);
             Due.due(NAMES[i] + " was refused", refused[i] > 0 || NEVER.indexOf(NAMES[i]) >= 0 ? 1 : 0, 1);
         }
-        texts(runs * 50, first);
+        texts(runs * 20, first);
         Due.end("ModelTest");
     }
 
@@ -45,8 +47,10 @@ final class ModelTest {
         Model m = new Model();
         int plans = 6;
         int style = r.nextInt(4);
+        calls = 0;
         prepare(r, x, m, seed, style);
-        for (int i = 0; i < CALLS - 60; i++) {
+        int end = r.nextInt(4) == 0 ? r.nextInt(CALLS) : CALLS;
+        while (calls < end) {
             int act = r.nextInt(NAMES.length);
             if (act >= 16 && act <= 19) {
                 if (plans == 0) {
@@ -56,6 +60,8 @@ final class ModelTest {
             }
             call(r, x, m, seed, act, style);
         }
+        all(seed, x, m);
+        Due.due("seed " + seed + ": 512 calls at most", calls <= 512);
         return m;
     }
 
@@ -81,6 +87,7 @@ final class ModelTest {
     }
 
     private static void same(int seed, String call, int got, int want) {
+        calls++;
         Due.due("seed " + seed + ": " + call, got, want);
     }
 
@@ -260,7 +267,6 @@ final class ModelTest {
             case 28:
                 for (int i = 0; i < m.w.goers.size() && r.nextInt(9) > 0; i++) {
                     int v = m.ofGoer(i, 6);
-                    x.ofGoer(i, 6);
                     same(seed, NAMES[act], x.put(sheet, i, v), m.put(sheet, i, v));
                 }
                 same(seed, NAMES[act], x.judge(sheet), m.judge(sheet));
@@ -279,7 +285,6 @@ final class ModelTest {
             case 31:
                 for (int k = r.nextInt(6); k >= 0; k--) {
                     int v = r.nextInt(8) == 0 ? number(r) : m.count(4);
-                    x.count(4);
                     same(seed, NAMES[act], x.tell(v), m.tell(v));
                 }
                 break;
@@ -306,12 +311,11 @@ final class ModelTest {
         } else {
             answered[act]++;
         }
-        all(seed, NAMES[act], x, m);
     }
 
-    /** What can be seen of both is the same behind each call. */
-    private static void all(int seed, String call, NineLedges x, Model m) {
-        String behind = "behind " + call;
+    /** What can be seen of both is the same in the end. */
+    private static void all(int seed, NineLedges x, Model m) {
+        String behind = "in the end";
         for (int what = 0; what <= 10; what++) {
             same(seed, behind + " count " + what, x.count(what), m.count(what));
         }
@@ -348,8 +352,13 @@ final class ModelTest {
         if (s.length() > 50) {
             s = s.substring(0, 50);
         }
-        for (int i = 0; i < s.length(); i++) {
-            same(seed, "feed", x.feed(s.charAt(i) | 0x7700L, 1), m.feed(s.charAt(i) | 0x7700L, 1));
+        for (int i = 0; i < s.length(); i += 8) {
+            int n = Math.min(8, s.length() - i);
+            long word = r.nextLong();
+            for (int k = n - 1; k >= 0; k--) {
+                word = word << 8 | s.charAt(i + k);
+            }
+            same(seed, "feed", x.feed(word, n), m.feed(word, n));
         }
         same(seed, "text " + s, x.text(use), m.text(use));
     }
@@ -375,6 +384,7 @@ final class ModelTest {
         NineLedges x = new NineLedges();
         int right = 0;
         for (int i = 0; i < n; i++) {
+            x = i % 50 == 0 ? new NineLedges() : x;
             int use = r.nextInt(2);
             StringBuilder s = new StringBuilder();
             if (r.nextInt(3) > 0) {

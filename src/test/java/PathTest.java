@@ -3,19 +3,11 @@ final class PathTest {
     private PathTest() {
     }
 
-    public static void main(String[] args) {
-        aNewObject();
-        roomAndOfYard();
-        roomRefuses();
-        goerAndOfGoer();
-        kinds();
-        becomeAndAs();
-        start();
-        home();
-        Due.end("PathTest");
+    public static void main(String[] args) throws Exception {
+        Due.each(PathTest.class);
     }
 
-    private static void aNewObject() {
+    static void aNewObject() {
         NineLedges x = new NineLedges();
         for (int what = 0; what <= 9; what++) {
             Due.due("count(" + what + ") of a new one", x.count(what), 0);
@@ -38,7 +30,7 @@ final class PathTest {
         Due.due("TOLL without a TEXT", x.law(1, 7, 8, 9), 7);
     }
 
-    private static void roomAndOfYard() {
+    static void roomAndOfYard() {
         NineLedges x = new NineLedges();
         Due.due("room", x.room(23, 5), 1);
         Due.due("room", x.room(0, 2), 1);
@@ -60,7 +52,7 @@ final class PathTest {
         Due.due("told", x.told(1), 4);
     }
 
-    private static void roomRefuses() {
+    static void roomRefuses() {
         NineLedges x = new NineLedges();
         Due.due("room", x.room(-1, 2), Due.BEYOND);
         Due.due("room", x.room(24, 2), Due.BEYOND);
@@ -83,7 +75,7 @@ final class PathTest {
         Due.due("as many", x.room(0, 2), 2);
     }
 
-    private static void goerAndOfGoer() {
+    static void goerAndOfGoer() {
         NineLedges x = new NineLedges();
         Due.due("goer", x.goer(69, 23, 0, 999), 0);
         Due.due("goer", x.goer(0, 0, 23, 0), 1);
@@ -114,7 +106,7 @@ final class PathTest {
         Due.due("eight", x.count(0), 8);
     }
 
-    private static void kinds() {
+    static void kinds() {
         // rows: km, PACE, LOAD, whether it CAN BACK, whether it HEARS
         int[][] all = {
             {0, 1, 0, 1, 1}, {9, 1, 9, 1, 1},
@@ -139,7 +131,7 @@ final class PathTest {
         }
     }
 
-    private static void becomeAndAs() {
+    static void becomeAndAs() {
         NineLedges x = new NineLedges();
         x.goer(37, 4, 1, 0);
         Due.due("become", x.become(0, 58), 3);
@@ -174,7 +166,7 @@ final class PathTest {
         Due.due("it stays where it is", x.ofGoer(0, 6), 4);
     }
 
-    private static void start() {
+    static void start() {
         NineLedges x = new NineLedges();
         x.goer(0, 0, 5, 7);
         Due.due("start", x.start(0, 999), 7);
@@ -191,7 +183,7 @@ final class PathTest {
         Due.due("as it was", x.ofGoer(0, 4), 0);
     }
 
-    private static void home() {
+    static void home() {
         NineLedges x = new NineLedges();
         x.goer(3, 0, 10, 0);
         x.goer(5, 10, 0, 0);

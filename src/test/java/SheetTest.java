@@ -3,17 +3,11 @@ final class SheetTest {
     private SheetTest() {
     }
 
-    public static void main(String[] args) {
-        sheet();
-        put();
-        move();
-        moveRefuses();
-        rooms();
-        judge();
-        Due.end("SheetTest");
+    public static void main(String[] args) throws Exception {
+        Due.each(SheetTest.class);
     }
 
-    private static void sheet() {
+    static void sheet() {
         NineLedges x = new NineLedges();
         Due.due("sheet", x.sheet(4, 8, 1), Due.BEYOND);
         Due.due("sheet", x.sheet(-1, 8, 1), Due.BEYOND);
@@ -39,7 +33,7 @@ final class SheetTest {
         Due.due("all 0", x.rooms(2), 0);
     }
 
-    private static void put() {
+    static void put() {
         NineLedges x = new NineLedges();
         x.sheet(0, 8, 1);
         x.sheet(1, 16, 1);
@@ -80,7 +74,7 @@ final class SheetTest {
         }
     }
 
-    private static void move() {
+    static void move() {
         NineLedges x = new NineLedges();
         x.sheet(0, 8, 5);
         x.sheet(1, 8, 5);
@@ -100,7 +94,7 @@ final class SheetTest {
         seen("all", x, 0, 1, 1, 1, 2, 3);
     }
 
-    private static void moveRefuses() {
+    static void moveRefuses() {
         NineLedges x = new NineLedges();
         x.sheet(0, 8, 5);
         x.sheet(1, 16, 5);
@@ -124,7 +118,7 @@ final class SheetTest {
         Due.due("told", x.told(5), 1);
     }
 
-    private static void rooms() {
+    static void rooms() {
         NineLedges x = new NineLedges();
         x.sheet(0, 8, 40);
         Due.due("0 is refused", x.rooms(0), 0);
@@ -154,7 +148,7 @@ final class SheetTest {
         Due.due("none", x.rooms(1), 0);
     }
 
-    private static void judge() {
+    static void judge() {
         NineLedges x = new NineLedges();
         x.sheet(0, 16, 0);
         Due.due("none of none", x.judge(0), -1);

@@ -3,17 +3,11 @@ final class TextTest {
     private TextTest() {
     }
 
-    public static void main(String[] args) {
-        feed();
-        values();
-        tolls();
-        names();
-        faults();
-        wrongTexts();
-        Due.end("TextTest");
+    public static void main(String[] args) throws Exception {
+        Due.each(TextTest.class);
     }
 
-    private static void feed() {
+    static void feed() {
         NineLedges x = new NineLedges();
         Due.due("feed", x.feed(0x2b6cL, 1), 1);
         Due.due("feed", x.feed(0x7f7f7f7f7f7f6e2bL, 2), 3);
@@ -41,7 +35,7 @@ final class TextTest {
         return x.law(0, 11, -3, 0);
     }
 
-    private static void values() {
+    static void values() {
         Due.due("NUMBER", rank("9999"), 9999);
         Due.due("NUMBER", rank("0007"), 7);
         Due.due("order", rank("2+3*4"), 14);
@@ -93,7 +87,7 @@ final class TextTest {
         Due.due("use", x.law(-1, 0, 0, 0), Due.BEYOND);
     }
 
-    private static void tolls() {
+    static void tolls() {
         NineLedges x = new NineLedges();
         Due.due("without a TEXT", x.law(1, 99, 0, 0), 99);
         Due.due("held", x.law(1, 100, 0, 0), 99);
@@ -104,7 +98,7 @@ final class TextTest {
         Due.due("RANK has none", x.law(0, 1000, 10, 10), 1000);
     }
 
-    private static void names() {
+    static void names() {
         NineLedges x = new NineLedges();
         Due.due("n", Due.text(x, 0, "n*100+b*10+l"), 1);
         Due.due("in order", x.law(0, 1, 2, 3), 231);
@@ -126,7 +120,7 @@ final class TextTest {
         return -10 - answer;
     }
 
-    private static void faults() {
+    static void faults() {
         Due.due("empty", fault(""), 0);
         Due.due("too early", fault("1+"), 2);
         Due.due("too early", fault("(1"), 2);
@@ -155,7 +149,7 @@ final class TextTest {
         Due.due("another sign", fault("1" + (char) 200), 1);
     }
 
-    private static void wrongTexts() {
+    static void wrongTexts() {
         NineLedges x = new NineLedges();
         Due.feed(x, "l+");
         Due.due("use", x.text(2), Due.BEYOND);

@@ -3,16 +3,11 @@ final class VoiceTest {
     private VoiceTest() {
     }
 
-    public static void main(String[] args) {
-        seed();
-        values();
-        traces();
-        rounds();
-        limits();
-        Due.end("VoiceTest");
+    public static void main(String[] args) throws Exception {
+        Due.each(VoiceTest.class);
     }
 
-    private static void seed() {
+    static void seed() {
         NineLedges x = new NineLedges();
         Due.due("seed", x.seed(-2000000000), 1);
         Due.due("seed", x.seed(7), -2000000000);
@@ -30,7 +25,7 @@ final class VoiceTest {
     }
 
     /** GOER 1 with m 5, and x 4. */
-    private static void values() {
+    static void values() {
         int[][] all = {
             {5, 10, -1, -11}, {5, 14, -1, -15}, {15, 30, -1, -31}, {5, 10, 1, 11},
             {5, 16, -1, -17}, {15, 30, -1, -40}, {5, 10, 0, 0},
@@ -55,7 +50,7 @@ final class VoiceTest {
         Due.due("none such", x.trace(-1), Due.NONE);
     }
 
-    private static void traces() {
+    static void traces() {
         trace(0, 0, 10);
         trace(0, 1, 11, 10);
         trace(0, 2, 12);
@@ -76,7 +71,7 @@ final class VoiceTest {
         trace(6, 3, 71, 11, 10, 13, 11, 10, 70, 40, 12);
     }
 
-    private static void rounds() {
+    static void rounds() {
         NineLedges x = one(0);
         Due.due("goes round", x.voice(1, 0, 2147483647), -2147483648);
         Due.due("goes round", x.voice(1, 1, 2147483647), 0);
@@ -86,7 +81,7 @@ final class VoiceTest {
         Due.due("goes round", y.voice(1, 2, -2147483643), -2147483648);
     }
 
-    private static void limits() {
+    static void limits() {
         NineLedges x = one(0);
         x.voice(1, 1, 4);
         Due.due("goer", x.voice(2, 0, 0), Due.BEYOND);

@@ -3,22 +3,11 @@ final class WouldBeTest {
     private WouldBeTest() {
     }
 
-    public static void main(String[] args) {
-        overBy();
-        stuckBy();
-        bestStart();
-        bestStartBeyond();
-        fewestBacks();
-        spare();
-        spareAtTheEnd();
-        without();
-        newOne();
-        faults();
-        nothingChanges();
-        Due.end("WouldBeTest");
+    public static void main(String[] args) throws Exception {
+        Due.each(WouldBeTest.class);
     }
 
-    private static void overBy() {
+    static void overBy() {
         NineLedges x = new NineLedges();
         Due.due("nobody", x.overBy(), 0);
         x.goer(0, 0, 5, 0);
@@ -50,7 +39,7 @@ final class WouldBeTest {
         return x;
     }
 
-    private static void stuckBy() {
+    static void stuckBy() {
         NineLedges x = twoCoffins();
         Due.due("behind one MINUTE", x.stuckBy(), 1);
         x.minutes(1);
@@ -96,7 +85,7 @@ final class WouldBeTest {
         return x;
     }
 
-    private static void bestStart() {
+    static void bestStart() {
         NineLedges x = against(0, 0);
         Due.due("as it is", x.overBy(), Due.NONE);
         Due.due("START", x.bestStart(1, 0), 10);
@@ -115,7 +104,7 @@ final class WouldBeTest {
         Due.due("BEYOND first", x.bestStart(0, 3), Due.BEYOND);
     }
 
-    private static void bestStartBeyond() {
+    static void bestStartBeyond() {
         NineLedges x = new NineLedges();
         x.goer(0, 0, 5, 500);
         Due.due("from MINUTE on", x.bestStart(0, 0), 0);
@@ -151,7 +140,7 @@ final class WouldBeTest {
     }
 
     /** Of STARTS with one OVER BY that with the fewest BACKS; a third GOER alone makes OVER BY. */
-    private static void fewestBacks() {
+    static void fewestBacks() {
         NineLedges x = new NineLedges();
         x.room(2, 2);
         x.goer(9, 8, 0, 0);
@@ -164,7 +153,7 @@ final class WouldBeTest {
         Due.due("BACKS", x.bestStart(1, 2), 0);
     }
 
-    private static void spare() {
+    static void spare() {
         NineLedges x = against(0, 40);
         Due.due("till the other finds it on its way", x.spare(0), 31);
         Due.due("60 at most", x.spare(1), 60);
@@ -191,7 +180,7 @@ final class WouldBeTest {
         Due.due("there it BACKS twice", y.then(100, 0, 9), 2);
     }
 
-    private static void spareAtTheEnd() {
+    static void spareAtTheEnd() {
         NineLedges x = new NineLedges();
         x.goer(0, 0, 5, 990);
         x.minutes(300);
@@ -211,7 +200,7 @@ final class WouldBeTest {
         return x;
     }
 
-    private static void without() {
+    static void without() {
         NineLedges x = oneLedge();
         Due.due("with it", x.overBy(), 6);
         Due.due("without it", x.without(0), Due.NONE);
@@ -234,7 +223,7 @@ final class WouldBeTest {
         Due.due("they are by", x.without(0), 2);
     }
 
-    private static void newOne() {
+    static void newOne() {
         NineLedges x = oneLedge();
         x.room(2, 1);
         Due.due("the YARD", x.newOne(0), 2);
@@ -260,7 +249,7 @@ final class WouldBeTest {
         Due.due("nobody: at once", z.newOne(1), 0);
     }
 
-    private static void faults() {
+    static void faults() {
         NineLedges x = new NineLedges();
         x.goer(10, 0, 3, 0);
         x.goer(10, 1, 0, 0);
@@ -276,7 +265,7 @@ final class WouldBeTest {
         Due.due("BACKS", x.count(6), 1);
     }
 
-    private static void nothingChanges() {
+    static void nothingChanges() {
         NineLedges x = oneLedge();
         x.overBy();
         x.stuckBy();
