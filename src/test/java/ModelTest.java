@@ -6,6 +6,10 @@ final class ModelTest {
     private static final int CALLS = 320;
     private static final int[] answered = new int[40];
     private static final int[] refused = new int[40];
+    private static final int[] FAR = {
+        Integer.MIN_VALUE, Integer.MIN_VALUE + 1, Integer.MAX_VALUE, Integer.MAX_VALUE - 1, -1000000001, 1 << 30, 65536,
+        -65536, 1000, 10000, -40, 256,
+    };
     private static int calls;
 
     private ModelTest() {
@@ -99,8 +103,8 @@ final class ModelTest {
         if (k == 1) {
             return most + 1;
         }
-        if (k == 2 && r.nextInt(6) == 0) {
-            return r.nextInt();
+        if (k == 2 && r.nextInt(3) == 0) {
+            return FAR[r.nextInt(FAR.length)];
         }
         return least + r.nextInt(most - least + 1);
     }
